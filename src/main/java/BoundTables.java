@@ -437,9 +437,12 @@ public final class BoundTables {
         }
 
         private int findParameter(int k, long name) {
-            int first = at(firstParameter, k);
-            int end = first + at(parameterCount, k);
-            for (int p = first; k >= 0 && p < end; p++) {
+            if (k < 0 || k >= classes || k >= MOST_CLASSES) {
+                return NONE;
+            }
+            int first = firstParameter[k];
+            int end = first + parameterCount[k];
+            for (int p = first; p < end; p++) {
                 if (nameAt(parameterName, p) == name) {
                     return p;
                 }
@@ -1171,7 +1174,7 @@ public final class BoundTables {
             together = 0;
             types.startOver(of);
             any = types.leaf(ANY);
-            ownFirst = at(of.firstParameter, owner);
+            ownFirst = owner < 0 ? 0 : at(of.firstParameter, owner);
             int own = owner < 0 ? 0 : of.arity(owner);
             for (int i = 0; i < own; i++) {
                 set(ownArgs, i, types.leaf(PARAMETER_HEAD + ownFirst + i));
@@ -1375,10 +1378,11 @@ public final class BoundTables {
         /** BOUND i of a variable; NONE if it has none such. */
         private int boundOf(int s, int i) {
             int head = types.head(s);
-            if (isParameter(head)) {
-                return i < MOST_BOUNDS ? at(ownBound, (head - PARAMETER_HEAD - ownFirst) * MOST_BOUNDS + i) : NONE;
+            if (!isParameter(head)) {
+                return boundOfNew(head - NEW_HEAD, i);
             }
-            return boundOfNew(head - NEW_HEAD, i);
+            int own = head - PARAMETER_HEAD - ownFirst;
+            return i < MOST_BOUNDS ? at(ownBound, own * MOST_BOUNDS + i) : NONE;
         }
 
         private int boundOfNew(int v, int i) {

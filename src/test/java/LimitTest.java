@@ -1,0 +1,110 @@
+/** The edges that the document names, and objects that are used for as long as they may be. */
+public final class LimitTest {
+    private static final Check C = new Check("LimitTest");
+
+    public static void main(String[] args) {
+        mostOfAll();
+        fuel();
+        nodesTogether();
+        growingTypes();
+        manyReads();
+        C.end();
+    }
+
+    /** 20 classes with four PARAMETERS each, each below the one before. */
+    private static void mostOfAll() {
+        StringBuilder sb = new StringBuilder("A<a,b,c,d>;");
+        for (char c = 'B'; c <= 'T'; c++) {
+            sb.append(c).append("<a,b,c,d>:").append((char) (c - 1)).append("<b,c,d,a>;");
+        }
+        BoundTables x = C.table(sb.toString());
+        C.due("classes", x.told(4), 21);
+        C.due("parameters", x.told(5), 80);
+        C.due("nodes", x.told(6), 95);
+        C.due("classes above T", x.cls(20, 2), 21);
+        C.due("T's first parameter", x.cls(20, 4), 76);
+        C.due("way(76, 75)", x.way(76, 75), 1);
+        C.due("way(79, 74)", x.way(79, 74), 1);
+        C.due("way(79, 79)", x.way(79, 79), 0);
+        C.throwsIndex("parameter(80, 0)", () -> x.parameter(80, 0));
+        Check.fed(x, "T<A<?,?,?,?>,?,?:T<?,?,?,?>,Any> above A").above();
+        C.due("19 turns", Check.page(x), "A<Any,A<?,?,?,?>,#0,#1>");
+        C.due("T<=A", Check.ask(x, "T<?,?,?,?><=A<?:Any,?,?:Any,?>"), 1);
+        C.counts("T<=A", x, 3, 2, 4, 5);
+    }
+
+    /** A TYPE that class P's a is below: with 1, 7, 31, .. questions, all BOUNDS being tried. */
+    private static String dear(int levels) {
+        String in = levels > 1 ? dear(levels - 1) : "Any";
+        return "P<?:" + in + ",?:" + in + ",Z>";
+    }
+
+    private static void fuel() {
+        BoundTables x = C.table("Z; Y; A<x> with x:A<Z>&A<?>;");
+        String question = "A<?><=A<?:A<?:A<?:Y>>>";
+        C.due(question, Check.ask(x, question), 0);
+        C.counts(question, x, 12, 7, 4, 16);
+        C.due("just enough", Check.fed(x, question).ask(12), 0);
+        C.due("one too few", Check.fed(x, question).ask(11), BoundTables.FUEL);
+        C.counts("one too few", x, 11, 7, 3, 12);
+        BoundTables y = C.table("Y; Z; P<a,b,c> with a:P<b,b,Y>&P<b,b,Z>, b:P<a,a,Y>&P<a,a,Z>;");
+        C.due("2047 questions", Check.ask(y, "in P:a<=" + dear(5)), 1);
+        C.counts("2047 questions", y, 2047, 11, 0, 0);
+        C.due("just enough", Check.fed(y, "in P:a<=" + dear(5)).ask(2047), 1);
+        C.due("one too few", Check.fed(y, "in P:a<=" + dear(5)).ask(2046), BoundTables.FUEL);
+        C.due("5119 questions", Check.ask(y, "in P:a<=P<?:" + dear(5) + ",?:" + dear(4) + ",Z>"), BoundTables.FUEL);
+        C.counts("5119 questions", y, 3000, 13, 0, 0);
+    }
+
+    private static String wide(int nodes) {
+        String in = nodes > 5 ? wide(nodes - 4) : "Z";
+        return "P<" + in + ",Z,Z,Z>";
+    }
+
+    /** BOUNDS of 2 and of 95 NODES: 61 times 97, then 2 more, then 95 would be too many. */
+    private static void nodesTogether() {
+        String five = "P<Z,Z,Z,Z>";
+        String twenty1 = "P<" + five + "," + five + "," + five + "," + five + ">";
+        String big = "P<" + twenty1 + "," + twenty1 + "," + twenty1 + ",P<" + five + "," + five + "," + five + ",P<"
+                + five + "," + five + ",Z,Z>>>";
+        BoundTables x = C.table("Z;P<a,b,c,d>;A<x>with x:A<?>&A<?:" + big + ">;");
+        C.due("nodes of the table", x.told(6), 97);
+        String nest = "Z";
+        for (int i = 0; i < 7; i++) {
+            nest = "A<?:" + nest + ">";
+        }
+        C.due("a question", Check.ask(x, "A<?><=" + nest), BoundTables.FULL);
+        C.due("told(2)", x.told(2), 62);
+        C.due("told(3)", x.told(3), 61 * 97 + 2);
+    }
+
+    /** TYPES that double with every step fill the page, and end all the same. */
+    private static void growingTypes() {
+        BoundTables x = C.table("Z;P<x,y>;N<z>;D<x,w>with w:P<x,w>:N<N<?^D<P<x,x>,?>>>;");
+        C.due("a question", Check.ask(x, "D<Z,?><=N<?^D<Z,?>>"), BoundTables.DEEP);
+        C.due("told(1)", x.told(1), 40);
+        int last = x.told(2) - 1;
+        C.due("40 variables or fewer", last >= 30 && last < 40 ? 1 : 0, 1);
+        C.due("variable(" + last + ", 0)", x.variable(last, 0), 1000);
+        C.due("its first bytes", Check.page(x).substring(0, 8), "P<P<P<P<");
+        C.due("variable(0, 0)", x.variable(0, 0), 7);
+        C.due("its bytes", Check.page(x), "P<Z,#0>");
+    }
+
+    /** Tables that are large and tables that are small, in turn, in one object. */
+    private static void manyReads() {
+        BoundTables x = new BoundTables();
+        for (int i = 0; i < 4; i++) {
+            StringBuilder sb = new StringBuilder("P<a,b,c,d>;A<a>:P<" + wide(20).replace("Z", "a") + ",a,a,a>;");
+            for (char c = 'B'; c <= 'M'; c++) {
+                sb.append(c).append("<a>:").append((char) (c - 1)).append("<a>;");
+            }
+            C.due("a large read", Check.fed(x, sb.toString()).read(), 15);
+            Check.fed(x, "M<Any> above P").above();
+            C.due("what is above M", x.told(3), 25);
+            C.due("a small read", Check.fed(x, "A;B:A;").read(), 3);
+            C.due("B<=A", Check.ask(x, "B<=A"), 1);
+            C.due("A<=B", Check.ask(x, "A<=B"), 0);
+        }
+    }
+}
