@@ -289,7 +289,9 @@ public final class BoundTables {
             names[count] = 0L;
             kinds[count] = END;
             length = 0;
-            stand(0);
+            now = -1;
+            kind = BAD;
+            step();
         }
 
         private int nameSize(int from) {
@@ -340,18 +342,14 @@ public final class BoundTables {
             return kind == '<' && at(kinds, now + 1) != '=';
         }
 
+        /** To the next token; behind the END there is none. */
         private void step() {
-            if (kind != END) {
-                stand(now + 1);
-            }
-        }
-
-        private void stand(int token) {
-            if (token >= 0 && token <= TAPE_BYTES) {
-                now = token;
-                kind = kinds[token];
-                place = places[token];
-                name = names[token];
+            int next = now + 1;
+            if (kind != END && next >= 0 && next <= TAPE_BYTES) {
+                now = next;
+                kind = kinds[next];
+                place = places[next];
+                name = names[next];
             }
         }
     }
@@ -741,7 +739,7 @@ public final class BoundTables {
         private int target;
         private int found;
         private int foundAt;
-        /** The TYPE that has ended last has other many ARGS than parameters. */
+        /** The TYPE that has ended last has other many ARGS than parameters: a FAULT at the next token. */
         private boolean miscounted;
 
         private Reader(Tape tape, Table table) {
@@ -1000,7 +998,6 @@ public final class BoundTables {
                 return fail(PLACE_FAULT);
             }
             tape.step();
-            miscounted = false;
             boolean up = tape.kind == ':';
             if (!up && tape.kind != '^') {
                 tell(WILD);

@@ -76,6 +76,23 @@ public final class LimitTest {
         C.due("a question", Check.ask(x, "A<?><=" + nest), BoundTables.FULL);
         C.due("told(2)", x.told(2), 62);
         C.due("told(3)", x.told(3), 61 * 97 + 2);
+        exactly6000(twenty1, five);
+    }
+
+    /** 1, then 99 times 60, then 59: one more BOUND of one NODE is too many. */
+    private static void exactly6000(String twenty1, String five) {
+        String big = "P<" + twenty1 + "," + twenty1 + "," + five + "," + five + ">";
+        BoundTables x = C.table("Z;P<a,b,c,d>;A<x,y>with x:A<?,?>&A<?,?:" + big + ">,y:Z;B<b>with b:Z;");
+        String nest = "Z";
+        for (int i = 0; i < 6; i++) {
+            nest = "A<?:" + nest + ",?>";
+        }
+        C.due("a question", Check.ask(x, "B<?:A<?,?>><=B<?:" + nest + ">"), BoundTables.FULL);
+        C.due("told(2)", x.told(2), 201);
+        C.due("told(3)", x.told(3), 6000);
+        C.due("variable(0, 0)", x.variable(0, 0), 6);
+        C.due("variable(0, 1)", x.variable(0, 1), 1);
+        C.due("variable(199, 1)", x.variable(199, 1), 7 + big.length());
     }
 
     /** TYPES that double with every step fill the page, and end all the same. */
