@@ -45,12 +45,45 @@ final class Check {
         return sum;
     }
 
-    static String page(BoundTables x) {
+    /** What is written, at most n bytes of it: an object is used for 512 calls alone. */
+    static String page(BoundTables x, int n) {
+        int length = Math.min(n, x.told(8));
         StringBuilder sb = new StringBuilder();
-        for (int i = 0; i < x.told(8); i++) {
+        for (int i = 0; i < length; i++) {
             sb.append((char) x.written(i));
         }
         return sb.toString();
+    }
+
+    static String page(BoundTables x) {
+        return page(x, 100);
+    }
+
+    /** Compares a long page: its ends, and some bytes between them. */
+    void longPage(String what, BoundTables x, String page) {
+        int length = x.told(8);
+        due(what + ": told(8)", length, page.length());
+        int end = Math.min(length, page.length());
+        for (int i = 0; i < end; i += i < 20 || i >= end - 20 ? 1 : Math.min(end - 20 - i, 1 + end / 40)) {
+            due(what + ": written(" + i + ")", x.written(i), page.charAt(i));
+        }
+    }
+
+    /** A TYPE of classes Z, L with one PARAMETER and P with four, with so many NODES. */
+    static String typeOf(int nodes) {
+        int left = nodes - 1;
+        if (nodes < 5) {
+            return nodes == 1 ? "Z" : "L<" + argOf(left) + ">";
+        }
+        StringBuilder sb = new StringBuilder();
+        for (int i = 0; i < 4; i++) {
+            sb.append(i == 0 ? "P<" : ",").append(argOf(left / 4 + (i < left % 4 ? 1 : 0)));
+        }
+        return sb.append('>').toString();
+    }
+
+    static String argOf(int nodes) {
+        return nodes == 1 ? "?" : "?:" + typeOf(nodes - 1);
     }
 
     void due(String call, long got, long want) {
@@ -83,6 +116,41 @@ final class Check {
         } catch (RuntimeException e) {
             return e.getClass().getSimpleName();
         }
+    }
+
+    void throwsFull(String call, Call c) {
+        due(call, thrown(c), "UnsupportedOperationException");
+    }
+
+    void reads(String text, int classes) {
+        BoundTables x = new BoundTables();
+        due("read of " + text, fed(x, text).read(), classes);
+        due("fault of " + text, x.fault(), 0);
+    }
+
+    /** In a marked text a ! stands at the place of the FAULT that is due. */
+    static String unmarked(String marked) {
+        return marked.replace("!", "");
+    }
+
+    void readFault(String marked, int fault) {
+        BoundTables x = table("Old;");
+        due("read of " + marked, fed(x, unmarked(marked)).read(), -10 - marked.indexOf('!'));
+        due("fault of " + marked, x.fault(), fault);
+        due("the table behind " + marked, x.cls(1, 3), packed("Old"));
+        due("the tape behind " + marked, x.told(7), 0);
+    }
+
+    void askFault(BoundTables x, String marked, int fault) {
+        due("ask of " + marked, ask(x, unmarked(marked)), -10 - marked.indexOf('!'));
+        due("fault of " + marked, x.fault(), fault);
+        due("the tape behind " + marked, x.told(7), 0);
+    }
+
+    void aboveFault(BoundTables x, String marked, int fault) {
+        due("above of " + marked, fed(x, unmarked(marked)).above(), -10 - marked.indexOf('!'));
+        due("fault of " + marked, x.fault(), fault);
+        due("the tape behind " + marked, x.told(7), 0);
     }
 
     /** told(0) to told(3). */

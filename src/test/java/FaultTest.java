@@ -22,32 +22,21 @@ public final class FaultTest {
     }
 
     private static void read(String marked, int fault) {
-        BoundTables x = C.table("Old;");
-        int got = Check.fed(x, marked.replace("!", "")).read();
-        C.due("read of " + marked, got, -10 - marked.indexOf('!'));
-        C.due("fault of " + marked, x.fault(), fault);
-        C.due("the table behind " + marked, x.cls(1, 3), Check.packed("Old"));
-        C.due("the tape behind " + marked, x.told(7), 0);
+        C.readFault(marked, fault);
     }
 
     private static void reads(String text, int classes) {
-        BoundTables x = new BoundTables();
-        C.due("read of " + text, Check.fed(x, text).read(), classes);
-        C.due("fault of " + text, x.fault(), 0);
+        C.reads(text, classes);
     }
 
     private static void ask(String marked, int fault) {
-        BoundTables x = C.table(TABLE);
-        C.due("ask of " + marked, Check.ask(x, marked.replace("!", "")), -10 - marked.indexOf('!'));
-        C.due("fault of " + marked, x.fault(), fault);
-        C.due("the tape behind " + marked, x.told(7), 0);
+        C.askFault(C.table(TABLE), marked, fault);
     }
 
     private static void above(String marked, int fault) {
         BoundTables x = C.table(TABLE);
         Check.fed(x, "Z above Z").above();
-        C.due("above of " + marked, Check.fed(x, marked.replace("!", "")).above(), -10 - marked.indexOf('!'));
-        C.due("fault of " + marked, x.fault(), fault);
+        C.aboveFault(x, marked, fault);
         C.due("the page behind " + marked, Check.page(x), "Z");
     }
 

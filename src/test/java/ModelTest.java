@@ -16,7 +16,7 @@ public final class ModelTest {
     private final BoundTables real = new BoundTables();
     private final Model model = new Model();
     private final StringBuilder story = new StringBuilder();
-    private int calls = 1;
+    private int calls;
 
     private ModelTest(long seed) {
         random = new Random(seed);
@@ -31,7 +31,11 @@ public final class ModelTest {
         }
     }
 
+    /** An object is used for 512 calls alone: none is made behind them. */
     private String same(String name, Call got, Call due) {
+        if (calls >= 512) {
+            return "";
+        }
         calls++;
         String g = outcome(got);
         String d = outcome(due);
@@ -72,7 +76,7 @@ public final class ModelTest {
     private void page() {
         String page = model.page();
         int step = 1 + page.length() / 20;
-        for (int i = 0; i <= page.length() && calls < 512; i += step) {
+        for (int i = 0; i <= page.length(); i += step) {
             int at = i;
             same("written(" + i + ")", () -> real.written(at), () -> model.written(at));
         }
@@ -81,21 +85,21 @@ public final class ModelTest {
     private void oneTable() {
         feed(texts.table());
         String got = same("read()", real::read, model::read);
-        see(real.fault() == 0 ? "read" : "read fault " + real.fault());
+        see(model.fault() == 0 ? "read" : "read fault " + model.fault());
         story.append(" -> read ").append(got);
         told();
         for (int i = 0; i < 12; i++) {
-            int k = random.nextInt(real.told(4) + 1);
-            int l = random.nextInt(real.told(4) + 1);
+            int k = random.nextInt(model.told(4) + 1);
+            int l = random.nextInt(model.told(4) + 1);
             int what = random.nextInt(6);
             same("cls(" + k + ", " + what + ")", () -> real.cls(k, what), () -> model.cls(k, what));
             same("isAbove(" + k + ", " + l + ")", () -> real.isAbove(k, l), () -> model.isAbove(k, l));
-            int p = random.nextInt(real.told(5) + 1);
-            int q = random.nextInt(real.told(5) + 1);
+            int p = random.nextInt(model.told(5) + 1);
+            int q = random.nextInt(model.told(5) + 1);
             same("parameter(" + p + ", " + what + ")", () -> real.parameter(p, what), () -> model.parameter(p, what));
             same("way(" + p + ", " + q + ")", () -> real.way(p, q), () -> model.way(p, q));
         }
-        if (real.told(9) == 1) {
+        if (model.told(9) == 1) {
             see("expansive");
         }
     }
@@ -104,14 +108,14 @@ public final class ModelTest {
         feed(texts.question());
         int fuel = random.nextInt(5) == 0 ? random.nextInt(6) - 1 : random.nextInt(20) == 0 ? random.nextInt(3002) : 3000;
         String got = same("ask(" + fuel + ")", () -> real.ask(fuel), () -> model.ask(fuel));
-        see(real.fault() == 0 ? "ask " + got : "ask fault " + real.fault());
+        see(model.fault() == 0 ? "ask " + got : "ask fault " + model.fault());
         story.append(" -> ask(").append(fuel).append(") ").append(got);
         told();
         variables();
     }
 
     private void variables() {
-        int count = real.told(2);
+        int count = model.told(2);
         for (int i = 0; i < 6; i++) {
             int v = i < 2 ? count - i : random.nextInt(count + 1);
             int what = random.nextInt(6) - 2;
@@ -124,7 +128,7 @@ public final class ModelTest {
     private void place() {
         feed(texts.place());
         String got = same("above()", real::above, model::above);
-        see(real.fault() == 0 ? "above " + (got.equals("0") ? got : "some") : "above fault " + real.fault());
+        see(model.fault() == 0 ? "above " + (got.equals("0") ? got : "some") : "above fault " + model.fault());
         story.append(" -> above ").append(got);
         told();
         page();
@@ -135,12 +139,17 @@ public final class ModelTest {
     private void table() {
         do {
             oneTable();
-        } while (real.fault() != 0 && calls < 300);
+        } while (model.fault() != 0 && calls < 512);
+    }
+
+    private static long cleared(Runnable clear) {
+        clear.run();
+        return 0;
     }
 
     private void run() {
         table();
-        while (calls < 420) {
+        while (calls < 512) {
             switch (random.nextInt(12)) {
                 case 0 -> table();
                 case 1, 2, 3 -> place();
@@ -148,8 +157,7 @@ public final class ModelTest {
             }
             if (random.nextInt(60) == 0) {
                 story.append(" -> clear");
-                real.clear();
-                model.clear();
+                same("clear()", () -> cleared(real::clear), () -> cleared(model::clear));
                 told();
             }
         }

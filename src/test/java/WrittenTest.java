@@ -148,8 +148,7 @@ public final class WrittenTest {
     private static void page(BoundTables x, String place, String whole) {
         int due = Math.min(1000, whole.length());
         C.due(place, Check.fed(x, place).above(), due);
-        C.due(place + ": told(8)", x.told(8), due);
-        C.due(place, Check.page(x), whole.substring(0, due));
+        C.longPage(place, x, whole.substring(0, due));
         C.throwsIndex("written(" + due + ")", () -> x.written(due));
         C.throwsIndex("written(-1)", () -> x.written(-1));
     }
