@@ -17,6 +17,7 @@ public final class CallEdgeTest {
         refusedFeed();
         tapeIsEmptyThen();
         inPlaceOfWhatThereIs();
+        nothingIsLeft();
         nothingChanges();
         latestFault();
         refusedCallsKeepTheFault();
@@ -183,6 +184,21 @@ public final class CallEdgeTest {
         C.due("isAbove(2, 1)", x.isAbove(2, 1), 1);
         C.due("the old table", read(x, TABLE), 5);
         C.due("told(6)", x.told(6), 2 + 3 + 3 + 2 + 1);
+    }
+
+    /** Of tables that were there before nothing is left, whichever they were. */
+    private static void nothingIsLeft() {
+        String[] texts = {"A;B:A,Any,A;", "A<a,b,c,d> with a:A<a,a,a,a>&Any,d:A<?:d,?,?,?>;B<a>:A<a,B<a>,a,a>,Any;", "A;B;",
+            "A:Any;B<b>;C<c>:B<c>;D<d> with d:C<?>:C<d>,A;", "A<a>;B<a>;", TABLE};
+        for (String last : texts) {
+            for (String before : texts) {
+                BoundTables x = C.table(before);
+                read(x, before);
+                read(x, before + "Y:Y;");
+                C.due("a table behind others", read(x, last) > 0 ? 1 : 0, 1);
+                C.due(last + " behind " + before, state(x), state(C.table(last)));
+            }
+        }
     }
 
     /** "-10 less the place of a FAULT: nothing changes." */
@@ -656,14 +672,14 @@ public final class CallEdgeTest {
 
     /** Numbers of one, two and three figures. */
     private static void numbersOfVariables() {
-        BoundTables x = C.table("Z;A<x,y> with x:A<?,?>&A<?,?>,y:A<y,Z>;");
+        BoundTables x = C.table("Z;A<x,y> with x:A<?,?>&A<?,?>,y:A<x,y>;");
         String nest = "Z";
         for (int i = 0; i < 7; i++) {
             nest = "A<?:" + nest + ",?>";
         }
         C.due("a question", Check.ask(x, "A<?,?><=" + nest), BoundTables.FULL);
         for (int v : new int[] {1, 3, 9, 11, 19, 21, 89, 99, 101, 109, 111, 199, 201, 211, 289, 299}) {
-            String due = "A<#" + v + ",Z>";
+            String due = "A<#" + (v - 1) + ",#" + v + ">";
             C.due("variable(" + v + ", 0)", x.variable(v, 0), due.length());
             C.due("variable(" + v + ", 0)", Check.page(x), due);
         }

@@ -1,3 +1,5 @@
+import java.util.Random;
+
 /** Promises 7 and 8 and told(9): ways, ROUNDS and what GROWS. */
 public final class GrowthTest {
     private static final Check C = new Check("GrowthTest");
@@ -18,8 +20,65 @@ public final class GrowthTest {
         table("A<a,b,c>with c:A<a,A<a,?,?>,A<b,?,?>>&A<c,?,?>;", "120 102 100", "111", 1);
         table("L<e>;A<a,b,c>with a:A<b,a,?>&A<?,c,A<b,?,?>>;", "0000 0010 0102 0010", "0111", 1);
         table("A<a,b>:Any;B<c>:A<A<?^B<c>,c>,B<c>>;", "000 000 221", "000", 0);
+        graphs();
         replaced();
         C.end();
+    }
+
+    /** Ways between four PARAMETERS, drawn by chance: ROUNDS through any of them, long and short. */
+    private static void graphs() {
+        Random random = new Random(4);
+        for (int run = 0; run < 400; run++) {
+            int[][] ways = new int[4][4];
+            StringBuilder text = new StringBuilder("A<a,b,c,d>with ");
+            int none = 4 + random.nextInt(8);
+            for (int p = 0; p < 4; p++) {
+                String name = "abcd".substring(p, p + 1);
+                text.append(p > 0 ? "," : "").append(name).append(":A<");
+                for (int q = 0; q < 4; q++) {
+                    int drawn = random.nextInt(none);
+                    ways[p][q] = drawn < 2 ? drawn + 1 : 0;
+                    text.append(q > 0 ? "," : "").append(new String[] {"?", name, "?:" + name}[ways[p][q]]);
+                }
+                text.append('>');
+            }
+            graph(text.append(';').toString(), ways);
+        }
+    }
+
+    private static void graph(String text, int[][] ways) {
+        StringBuilder rows = new StringBuilder();
+        StringBuilder rounds = new StringBuilder();
+        for (int p = 0; p < 4; p++) {
+            for (int q = 0; q < 4; q++) {
+                rows.append(ways[p][q]);
+            }
+            rows.append(' ');
+            rounds.append(comesBack(ways, p) ? '1' : '0');
+        }
+        table(text, rows.toString().trim(), rounds.toString(), rounds.indexOf("1") >= 0 ? 1 : 0);
+    }
+
+    /** Walks from p, eight ways at most, and keeps where it is with and without one that grew. */
+    private static boolean comesBack(int[][] ways, int p) {
+        boolean[][] at = new boolean[4][2];
+        at[p][0] = true;
+        for (int step = 0; step < 8; step++) {
+            boolean[][] next = new boolean[4][2];
+            for (int i = 0; i < 32; i++) {
+                int from = i / 8;
+                int to = i / 2 % 4;
+                int grown = i % 2;
+                if (at[from][grown] && ways[from][to] > 0) {
+                    next[to][ways[from][to] == 2 ? 1 : grown] = true;
+                }
+            }
+            if (next[p][1]) {
+                return true;
+            }
+            at = next;
+        }
+        return false;
     }
 
     /** Rows of way(p, q), then parameter(p, 3) of all, then told(9). */

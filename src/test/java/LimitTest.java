@@ -8,6 +8,8 @@ public final class LimitTest {
         nodesTogether();
         growingTypes();
         manyReads();
+        muchAbove();
+        manyNodes();
         C.end();
     }
 
@@ -123,5 +125,84 @@ public final class LimitTest {
             C.due("B<=A", Check.ask(x, "B<=A"), 1);
             C.due("A<=B", Check.ask(x, "A<=B"), 0);
         }
+    }
+
+    /** Nine classes with nine others above each of them, with 199 or 200 NODES each. */
+    private static void muchAbove() {
+        String big = Check.typeOf(199).replace("Z", "Any").replace("L<", "A<");
+        StringBuilder sb = new StringBuilder("P<a,b,c,d>;A<t>;");
+        for (char c = 'B'; c <= 'I'; c++) {
+            sb.append(c).append("<t>:").append((char) (c - 1)).append("<t>;");
+        }
+        sb.append("J:I<").append(big).append(">;");
+        for (char c = 'K'; c <= 'S'; c++) {
+            if (c != 'P') {
+                sb.append(c).append(':').append((char) (c == 'Q' ? 'O' : c - 1)).append(';');
+            }
+        }
+        for (char c = 'A'; c <= 'I'; c++) {
+            BoundTables x = C.table(sb.toString());
+            Check.fed(x, "S above " + c).above();
+            C.due("NODES above S", x.told(3), 200);
+            C.longPage("S above " + c, x, c + "<" + big + ">");
+            C.due("J below it", Check.ask(x, "J<=" + c + "<?:P<?,?,?,?>>"), 1);
+            C.due("S below J", Check.ask(x, "S<=J"), 1);
+            C.due("J below S", Check.ask(x, "J<=S"), 0);
+            C.due("the same table", Check.fed(x, sb.toString()).read(), 20);
+            C.due("S below it", Check.ask(x, "S<=" + c + "<?:P<?,?,?,?>>"), 1);
+        }
+    }
+
+    /** A TYPE in four others with sorts of ARGS that the figures of n tell. */
+    private static String chain(int n, String leaf) {
+        String text = leaf;
+        int left = n;
+        for (int i = 0; i < 4; i++) {
+            text = "L<" + new String[] {"?:", "?^", ""}[left % 3] + text + ">";
+            left /= 3;
+        }
+        return text;
+    }
+
+    private static String chains(int from, String leaf) {
+        StringBuilder sb = new StringBuilder("P<");
+        for (int i = 0; i < 3; i++) {
+            sb.append("P<");
+            for (int j = 0; j < 4; j++) {
+                sb.append(chain(from + 5 * (4 * i + j), leaf)).append(j < 3 ? "," : ">,");
+            }
+        }
+        return sb.append(leaf).append('>').toString();
+    }
+
+    private static String trees(int levels) {
+        return levels == 0 ? "Any" : "B<?:" + trees(levels - 1) + ",Z,?>";
+    }
+
+    /** BOUNDS with many TYPES that are all others for each NEW variable, in question after question. */
+    private static void manyNodes() {
+        String first = chains(0, "x");
+        String second = chains(3, "x");
+        String chain = chain(7, "Y");
+        BoundTables x = C.table("Y;Z;L<t>;P<a,b,c,d>;B<x,k,j> with x:B<?,Y," + first + ">&B<?,Z," + second + ">;Q<q>:L<" + chain(7, "q") + ">;");
+        String s = "P<B<?,Z,Z>,B<?,Z,Z>,B<?,Z,Z>,Q<Y>>";
+        String t = "P<?:" + trees(4) + ",?:" + trees(3) + ",?:" + trees(2) + ",?:L<" + chain + ">>";
+        for (int i = 0; i < 4; i++) {
+            C.due("a question of many NODES", Check.ask(x, s + "<=" + t), 1);
+            C.due("told(2)", x.told(2), 25);
+            C.due("told(3)", x.told(3) > 5000 ? 1 : 0, 1);
+        }
+        C.due("another chain", Check.ask(x, s + "<=" + t.replace(chain, chain(16, "Y"))), 0);
+        for (int v : new int[] {0, 13, 24}) {
+            BoundTables y = C.table("Y;Z;L<t>;P<a,b,c,d>;B<x,k,j> with x:B<?,Y," + first + ">&B<?,Z," + second + ">;");
+            Check.ask(y, s.replace("Q<Y>", "Y") + "<=" + t.replace("?:L<" + chain + ">", "?"));
+            bound(y, v, 0, "B<?,Y," + first.replace("x", "#" + v) + ">");
+            bound(y, v, 1, "B<?,Z," + second.replace("x", "#" + v) + ">");
+        }
+    }
+
+    private static void bound(BoundTables x, int v, int what, String type) {
+        C.due("variable(" + v + ", " + what + ")", x.variable(v, what), type.length());
+        C.longPage("variable(" + v + ", " + what + ")", x, type);
     }
 }

@@ -13,6 +13,7 @@ public final class QuestionTest {
         newVariables();
         floors();
         orders();
+        turned();
         ends();
         C.end();
     }
@@ -101,6 +102,22 @@ public final class QuestionTest {
         BoundTables x = C.table("N; I:N; C<e>; P<a,b> with b:C<?^a>;");
         C.due("a question", Check.ask(x, "P<?^I,?><=P<?,?:C<?^N>>"), 0);
         C.counts("a question", x, 6, 6, 3, 3);
+    }
+
+    /** What is above a class with its ARGS in another order. */
+    private static void turned() {
+        BoundTables x = C.table("W;X;Y;Z;P<a,b,c,d>;S<a,b,c,d>:P<d,b,a,c>;T<a,b,c>:S<c,a,X,b>;");
+        C.due("S<W,X,Y,Z><=P<Z,X,W,Y>", Check.ask(x, "S<W,X,Y,Z><=P<Z,X,W,Y>"), 1);
+        C.counts("in its order", x, 1, 1, 0, 5);
+        C.due("S<W,X,Y,Z><=P<W,X,Y,Z>", Check.ask(x, "S<W,X,Y,Z><=P<W,X,Y,Z>"), 0);
+        C.due("S<W,X,Y,Z><=P<?:Z,?^X,W,?:Y>", Check.ask(x, "S<W,X,Y,Z><=P<?:Z,?^X,W,?:Y>"), 1);
+        C.counts("in its order", x, 4, 2, 0, 5);
+        C.due("S<W,X,Y,Z><=P<?:Z,?^X,?:X,?:Y>", Check.ask(x, "S<W,X,Y,Z><=P<?:Z,?^X,?:X,?:Y>"), 0);
+        C.counts("the third is no", x, 4, 2, 0, 5);
+        C.due("T<W,Z,Y><=P<Z,W,Y,X>", Check.ask(x, "T<W,Z,Y><=P<Z,W,Y,X>"), 1);
+        C.due("S<?,X,?^Y,?:Z><=P<?:Z,X,?,?^Y>", Check.ask(x, "S<?,X,?^Y,?:Z><=P<?:Z,X,?,?^Y>"), 1);
+        C.counts("with NEW variables", x, 5, 3, 3, 5);
+        C.due("S<?,X,?^Y,?:Z><=P<?:Z,X,?^Y,?>", Check.ask(x, "S<?,X,?^Y,?:Z><=P<?:Z,X,?^Y,?>"), 0);
     }
 
     private static void ends() {

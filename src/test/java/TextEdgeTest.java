@@ -16,6 +16,7 @@ public final class TextEdgeTest {
         nameLengths();
         words();
         asLongAsMayBe();
+        inAny();
         lessAndEqual();
         oneDeclOrMore();
         parametersFirst();
@@ -230,6 +231,15 @@ public final class TextEdgeTest {
         ask("!inZ:Z<=Z", 4);
         C.due("1 behind a sign", Check.ask(C.table("A1;"), "A1<=A1"), 1);
         ask("Z<=Z!<=", 2);
+    }
+
+    /** "[ in NAME : ]": ANY is a class too, without PARAMETERS. */
+    private static void inAny() {
+        yes("in Any:Z<=Z");
+        yes("in Any:L<?><=L<?:Any>");
+        ask("in Any:!t<=Z", 4);
+        C.due("a place", Check.fed(C.table(ASKED), "in Any:B<Z,L<Z>> above L").above(), 7);
+        C.due("a new object", Check.ask(new BoundTables(), "in Any:Any<=Any"), 1);
     }
 
     /** "TYPE < = TYPE (two signs)"; "a < with = as the next token is none of a TYPE" */
