@@ -9,6 +9,7 @@ public final class LimitTest {
         growingTypes();
         manyReads();
         muchAbove();
+        roomForAbove();
         manyNodes();
         C.end();
     }
@@ -150,6 +151,37 @@ public final class LimitTest {
             C.due("J below S", Check.ask(x, "J<=S"), 0);
             C.due("the same table", Check.fed(x, sb.toString()).read(), 20);
             C.due("S below it", Check.ask(x, "S<=" + c + "<?:P<?,?,?,?>>"), 1);
+        }
+    }
+
+    /**
+     * The row of what is above grows when it is full, at whichever TYPE that is: tables of all sizes,
+     * among them some in which the last that fits is a class's own TYPE, or ANY.
+     */
+    private static void roomForAbove() {
+        int[][] shapes = {{3, 4}, {2, 1}, {2, 5}, {1, 8}};
+        for (int[] shape : shapes) {
+            for (int nodes = 5; nodes <= 199; nodes++) {
+                String big = Check.typeOf(nodes).replace("Z", "Any").replace("L<", "A<");
+                StringBuilder sb = new StringBuilder("P<a,b,c,d>;A<t>;");
+                char last = 'A';
+                for (int i = 0; i < shape[0]; i++) {
+                    sb.append((char) (last + 1)).append("<t>:").append(last++).append("<t>;");
+                }
+                char lastWithArgs = last;
+                for (int i = 0; i <= shape[1]; i++) {
+                    sb.append((char) (last + 1)).append(':').append(last++).append(i == 0 ? "<" + big + ">;" : ";");
+                }
+                sb.append("X;Y:X,").append(last).append(';');
+                BoundTables x = new BoundTables();
+                C.due("read of " + sb, Check.fed(x, sb.toString()).read(), 6 + shape[0] + shape[1]);
+                for (char c = 'A'; c <= last; c++) {
+                    int due = c <= lastWithArgs ? 3 + big.length() : 1;
+                    C.due("Y above " + c + " in " + sb, Check.fed(x, "Y above " + c).above(), due);
+                    C.due("its first byte", x.written(0), c);
+                }
+                C.due("Y above X in " + sb, Check.fed(x, "Y above X").above(), 1);
+            }
         }
     }
 
